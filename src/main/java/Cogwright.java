@@ -45,7 +45,7 @@ public final class Cogwright {
 
     public int addCutter(int module, int least, int most)
             throws IllegalArgumentException, IllegalStateException {
-        if (isNoModule(module) || isNoTeeth(least) || isOutside(most, least, MOST_TEETH)) {
+        if (isNoModule(module) || isNoToothCount(least) || isOutside(most, least, MOST_TEETH)) {
             throw new IllegalArgumentException("module, least or most is out of range");
         }
         if (cutters.size() >= MOST_CUTTERS) {
@@ -56,7 +56,7 @@ public final class Cogwright {
     }
 
     public int cutterFor(int module, int teeth) throws IllegalArgumentException {
-        if (isNoModule(module) || isNoTeeth(teeth)) {
+        if (isNoModule(module) || isNoToothCount(teeth)) {
             throw new IllegalArgumentException("module or teeth is out of range");
         }
         return lowestCutter(module, teeth);
@@ -64,7 +64,7 @@ public final class Cogwright {
 
     public int stage(int module, int driver, int driven)
             throws IllegalArgumentException, IllegalStateException {
-        if (isNoModule(module) || isNoTeeth(driver) || isNoTeeth(driven)) {
+        if (isNoModule(module) || isNoToothCount(driver) || isNoToothCount(driven)) {
             throw new IllegalArgumentException("module, driver or driven is out of range");
         }
         if (draft.stages.size() >= MOST_STAGES) {
@@ -211,7 +211,7 @@ public final class Cogwright {
     }
 
     public int leastNew(int module, int above, int below) throws IllegalArgumentException {
-        if (isNoModule(module) || isOutside(above, 1, MOST_RATIO_TERM)
+        if (isNoModule(module) || above < 1 || above > MOST_RATIO_TERM
                 || below < 1 || below > MOST_RATIO_TERM) {
             throw new IllegalArgumentException("module, above or below is out of range");
         }
@@ -239,7 +239,7 @@ public final class Cogwright {
         return isOutside(module, 1, MOST_MODULE);
     }
 
-    private static boolean isNoTeeth(int teeth) {
+    private static boolean isNoToothCount(int teeth) {
         return isOutside(teeth, LEAST_TEETH, MOST_TEETH);
     }
 

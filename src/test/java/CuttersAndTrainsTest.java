@@ -19,14 +19,6 @@ final class CuttersAndTrainsTest {
         CHECK.end();
     }
 
-    private static Cogwright withAllCutters() {
-        Cogwright x = new Cogwright();
-        for (int module = 1; module <= 4; module++) {
-            x.addCutter(module, 8, 60);
-        }
-        return x;
-    }
-
     private static void aNewObject() {
         Cogwright x = new Cogwright();
         CHECK.same("new time", 0, x.time());
@@ -42,7 +34,7 @@ final class CuttersAndTrainsTest {
         }
         CHECK.outOfBounds("new numerator", () -> x.numerator(0));
         CHECK.outOfBounds("new gearsLeft", () -> x.gearsLeft(0));
-        Cogwright other = withAllCutters();
+        Cogwright other = Samples.withAllCutters();
         CHECK.same("one object's cutter", 0, other.cutterFor(1, 8));
         CHECK.same("is not another's", -1, x.cutterFor(1, 8));
     }
@@ -125,7 +117,7 @@ final class CuttersAndTrainsTest {
     }
 
     private static void scrap() {
-        Cogwright x = withAllCutters();
+        Cogwright x = Samples.withAllCutters();
         x.stage(1, 8, 8);
         x.stage(1, 8, 9);
         x.make(33);
@@ -140,7 +132,7 @@ final class CuttersAndTrainsTest {
     }
 
     private static void make() {
-        Cogwright x = withAllCutters();
+        Cogwright x = Samples.withAllCutters();
         x.stage(2, 10, 30);
         CHECK.same("first", 0, x.make(80));
         CHECK.same("the draft is empty then", 32, x.stage(2, 8, 8));
@@ -175,7 +167,7 @@ final class CuttersAndTrainsTest {
     }
 
     private static void makeRefusesTheNinth() {
-        Cogwright x = withAllCutters();
+        Cogwright x = Samples.withAllCutters();
         for (int train = 0; train < 8; train++) {
             x.stage(1, 8, 8 + train);
             CHECK.same("train " + train, train, x.make(16 + train));
@@ -196,7 +188,7 @@ final class CuttersAndTrainsTest {
     }
 
     private static void ratio() {
-        Cogwright x = withAllCutters();
+        Cogwright x = Samples.withAllCutters();
         int[][] due = {
             {train(x, 10, 30), 3, 1}, {train(x, 30, 10), 1, 3}, {train(x, 12, 18), 3, 2},
             {train(x, 10, 30, 12, 18), 9, 2}, {train(x, 13, 17, 19, 23), 391, 247},
@@ -221,7 +213,7 @@ final class CuttersAndTrainsTest {
     }
 
     private static void turned() {
-        Cogwright x = withAllCutters();
+        Cogwright x = Samples.withAllCutters();
         int slow = train(x, 8, 60);
         turnsAre(x, slow, 0, 0);
         turnsAre(x, slow, 7, 0);
@@ -243,7 +235,7 @@ final class CuttersAndTrainsTest {
     }
 
     private static void turnedRefuses() {
-        Cogwright x = withAllCutters();
+        Cogwright x = Samples.withAllCutters();
         int train = train(x, 8, 60);
         for (int turns : new int[] {-1, 600001, Integer.MIN_VALUE, Integer.MAX_VALUE}) {
             CHECK.illegalArgument("turned " + turns, () -> x.turned(train, turns));

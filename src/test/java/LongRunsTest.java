@@ -14,6 +14,12 @@ final class LongRunsTest {
         Integer.MAX_VALUE,
     };
 
+    // The calls of a busy run, as often as they stand here.
+    private static final int[] OFTEN = {
+        0, 1, 2, 2, 2, 2, 2, 2, 3, 4, 4, 4, 5, 6, 7, 8, 9, 9, 10, 10, 10, 10, 10, 10, 10, 10, 11,
+        12, 12, 12, 13, 13, 13, 14, 14, 14, 15, 15, 16, 16, 17, 17, 17, 18, 18, 19, 19, 20,
+    };
+
     private long row;
 
     public static void main(String[] args) {
@@ -29,7 +35,7 @@ final class LongRunsTest {
         Cogwright real = new Cogwright();
         Model model = new Model();
         for (int n = 0; n < CALLS; n++) {
-            int call = pick(run % 3 == 0 ? FACE : FACE + 14);
+            int call = run % 3 == 0 ? pick(FACE) : OFTEN[pick(OFTEN.length)];
             int[] a = arguments(call, model);
             String due = model.answer(call, a);
             String got = answer(real, call, a);
@@ -58,48 +64,46 @@ final class LongRunsTest {
     private int[] ordinary(int call, Model model) {
         switch (call) {
             case 0: {
-                int least = between(8, 60);
-                return new int[] {between(1, 4), least, between(least, 60)};
+                int least = between(8, pick(2) == 0 ? 60 : 12);
+                return new int[] {between(1, 4), least, between(pick(2) == 0 ? 50 : least, 60)};
             }
             case 1:
                 return new int[] {between(1, 4), between(8, 60), 0};
             case 2:
-                return new int[] {between(1, 4), between(8, 60), between(8, 60)};
+                return stage(model);
             case 4:
                 return new int[] {model.distance() + (pick(6) == 0 ? 1 : 0), 0, 0};
             case 7:
             case 8:
-                return new int[] {pick(9), between(0, 600000), 0};
+                return new int[] {pick(model.trains + 1), between(0, 600000), 0};
             case 10:
-                return new int[] {pick(3) == 0 ? between(1, 200) : between(1, 12), 0, 0};
+                return new int[] {between(1, pick(3) == 0 ? 200 : 12), 0, 0};
+            case 13:
+            case 14:
+                return new int[] {pick(3), 0, 0};
             case 17:
-                return new int[] {pick(12), between(1, 100), pick(3) == 0 ? between(1, 100) : 1};
+                return new int[] {pick(model.orders + 1), between(1, 100), between(1, 4)};
             case 20:
                 return new int[] {between(1, 4), ratioTerm(), ratioTerm()};
-            default:
-                return usual(call);
+            default: {
+                boolean train = call < 10 || call == 19;
+                return new int[] {pick(1 + (train ? model.trains : model.orders)), pick(5), 0};
+            }
         }
     }
 
-    // A call beyond the face stands for one that a run needs often to get anywhere.
-    private int[] usual(int call) {
-        if (call == 13 || call == 14) {
-            return new int[] {pick(3), 0, 0};
+    // Most stages are such that there are cutters for them, so that trains can be made of them.
+    private int[] stage(Model model) {
+        if (model.cutters == 0 || pick(8) == 0) {
+            return new int[] {between(1, 4), between(8, 60), between(8, 60)};
         }
-        if (call >= FACE) {
-            return new int[] {between(1, 4), between(8, 24), between(8, 24)};
-        }
-        return new int[] {pick(call == 18 ? 12 : 9), pick(5), 0};
+        int[] by = model.cutter[pick(model.cutters)];
+        int most = Math.min(by[2], by[1] + between(0, 52));
+        return new int[] {by[0], between(by[1], most), between(by[1], most)};
     }
 
     private int ratioTerm() {
         return pick(2) == 0 ? between(1, 400) : between(8, 20) * between(1, 20);
-    }
-
-    /** Which of the face's calls a number stands for: the usual ones more often. */
-    private static int folded(int call) {
-        int[] often = {2, 2, 10, 10, 10, 10, 13, 14, 15, 16, 17, 18, 12, 2};
-        return call < FACE ? call : often[call - FACE];
     }
 
     private static String name(int call) {
@@ -108,12 +112,12 @@ final class LongRunsTest {
             "turned", "turnedByWalk", "order", "pass", "time", "waiting", "cutterOn", "ticksLeft",
             "gearsLeft", "doneAt", "test", "wear", "claims", "leastNew",
         };
-        return names[folded(call)];
+        return names[call];
     }
 
     private static String answer(Cogwright x, int call, int[] a) {
         try {
-            return "" + call(x, folded(call), a);
+            return "" + call(x, call, a);
         } catch (RuntimeException e) {
             return Check.nameOf(e);
         }
@@ -170,8 +174,7 @@ final class LongRunsTest {
         private final int[] until = new int[3];
         private int now;
 
-        String answer(int anyCall, int[] a) {
-            int call = folded(anyCall);
+        String answer(int call, int[] a) {
             if (call < 5) {
                 return drafting(call, a);
             }

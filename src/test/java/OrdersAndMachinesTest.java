@@ -17,24 +17,6 @@ final class OrdersAndMachinesTest {
         CHECK.end();
     }
 
-    /** One cutter a module, for all teeth: cutter module - 1. */
-    private static Cogwright withAllCutters() {
-        Cogwright x = new Cogwright();
-        for (int module = 1; module <= 4; module++) {
-            x.addCutter(module, 8, 60);
-        }
-        return x;
-    }
-
-    /** Makes a train of stages, each told by its module, driver and driven gear. */
-    private static int train(Cogwright x, int... stages) {
-        int distance = 0;
-        for (int i = 0; i + 2 < stages.length; i += 3) {
-            distance = x.stage(stages[i], stages[i + 1], stages[i + 2]);
-        }
-        return x.make(distance);
-    }
-
     private static void machinesAre(Cogwright x, String when, int... due) {
         for (int machine = 0; machine < 3; machine++) {
             CHECK.same(when + ": cutterOn(" + machine + ")",
@@ -45,9 +27,9 @@ final class OrdersAndMachinesTest {
     }
 
     private static void order() {
-        Cogwright x = withAllCutters();
-        int one = train(x, 1, 10, 20);
-        int four = train(x, 1, 8, 9, 2, 8, 9, 3, 8, 9, 4, 8, 9);
+        Cogwright x = Samples.withAllCutters();
+        int one = Samples.train(x, 1, 10, 20);
+        int four = Samples.train(x, 1, 8, 9, 2, 8, 9, 3, 8, 9, 4, 8, 9);
         CHECK.same("first order", 0, x.order(four));
         CHECK.same("waiting", 8, x.waiting());
         CHECK.same("second order", 1, x.order(one));
@@ -61,9 +43,9 @@ final class OrdersAndMachinesTest {
     }
 
     private static void orderRefuses() {
-        Cogwright x = withAllCutters();
+        Cogwright x = Samples.withAllCutters();
         CHECK.outOfBounds("no train yet", () -> x.order(0));
-        int train = train(x, 1, 8, 8);
+        int train = Samples.train(x, 1, 8, 8);
         for (int none : new int[] {-1, 1, Integer.MIN_VALUE, Integer.MAX_VALUE}) {
             CHECK.outOfBounds("order(" + none + ")", () -> x.order(none));
         }
@@ -79,7 +61,7 @@ final class OrdersAndMachinesTest {
     }
 
     private static void passRefuses() {
-        Cogwright x = withAllCutters();
+        Cogwright x = Samples.withAllCutters();
         for (int ticks : new int[] {0, -1, 201, Integer.MIN_VALUE, Integer.MAX_VALUE}) {
             CHECK.illegalArgument("pass(" + ticks + ")", () -> x.pass(ticks));
         }
@@ -87,7 +69,7 @@ final class OrdersAndMachinesTest {
     }
 
     private static void idlePasses() {
-        Cogwright x = withAllCutters();
+        Cogwright x = Samples.withAllCutters();
         CHECK.same("nothing to cut", 0, x.pass(1));
         CHECK.same("time", 1, x.time());
         CHECK.same("nothing to cut", 0, x.pass(200));
@@ -96,8 +78,8 @@ final class OrdersAndMachinesTest {
     }
 
     private static void setUpOnce() {
-        Cogwright x = withAllCutters();
-        x.order(train(x, 1, 8, 9));
+        Cogwright x = Samples.withAllCutters();
+        x.order(Samples.train(x, 1, 8, 9));
         CHECK.same("first tick", 0, x.pass(1));
         machinesAre(x, "the driver first, with set-up", 0, 10, -1, 0, -1, 0);
         CHECK.same("one waits", 1, x.waiting());
@@ -123,8 +105,8 @@ final class OrdersAndMachinesTest {
     }
 
     private static void ownCutterFirst() {
-        Cogwright x = withAllCutters();
-        int train = train(x, 1, 8, 10, 2, 20, 20, 3, 30, 30, 4, 8, 8);
+        Cogwright x = Samples.withAllCutters();
+        int train = Samples.train(x, 1, 8, 10, 2, 20, 20, 3, 30, 30, 4, 8, 8);
         x.order(train);
         x.order(train);
         x.pass(1);
@@ -154,15 +136,15 @@ final class OrdersAndMachinesTest {
     }
 
     private static void cutterOnAnotherMachine() {
-        Cogwright x = withAllCutters();
-        x.order(train(x, 1, 8, 8, 2, 8, 8));
+        Cogwright x = Samples.withAllCutters();
+        x.order(Samples.train(x, 1, 8, 8, 2, 8, 8));
         CHECK.same("all cut", 4, x.pass(19));
         machinesAre(x, "idle", 0, 0, 1, 0, -1, 0);
-        x.order(train(x, 2, 12, 13));
+        x.order(Samples.train(x, 2, 12, 13));
         x.pass(1);
         machinesAre(x, "machine 1 has the cutter", 0, 0, 1, 11, -1, 0);
         CHECK.same("the other gear waits", 1, x.waiting());
-        x.order(train(x, 4, 20, 20, 1, 30, 30));
+        x.order(Samples.train(x, 4, 20, 20, 1, 30, 30));
         x.pass(1);
         machinesAre(x, "own cutter, then a new one", 0, 29, 1, 10, 3, 22);
         CHECK.same("three wait", 3, x.waiting());
@@ -172,7 +154,7 @@ final class OrdersAndMachinesTest {
         Cogwright x = new Cogwright();
         x.addCutter(1, 12, 60);
         x.addCutter(1, 8, 60);
-        x.order(train(x, 1, 12, 13, 1, 11, 14));
+        x.order(Samples.train(x, 1, 12, 13, 1, 11, 14));
         x.pass(1);
         machinesAre(x, "the lowest cutter alone", 0, 14, 1, 13, -1, 0);
         x.addCutter(1, 8, 60);
@@ -182,10 +164,10 @@ final class OrdersAndMachinesTest {
     }
 
     private static void twoCutInOneTick() {
-        Cogwright x = withAllCutters();
-        x.order(train(x, 1, 20, 8));
-        x.order(train(x, 2, 20, 8));
-        x.order(train(x, 3, 20, 8));
+        Cogwright x = Samples.withAllCutters();
+        x.order(Samples.train(x, 1, 20, 8));
+        x.order(Samples.train(x, 2, 20, 8));
+        x.order(Samples.train(x, 3, 20, 8));
         CHECK.same("none yet", 0, x.pass(22));
         CHECK.same("three at once", 3, x.pass(1));
         CHECK.same("three wait", 3, x.waiting());
@@ -196,7 +178,7 @@ final class OrdersAndMachinesTest {
     }
 
     private static void machinesOutOfBounds() {
-        Cogwright x = withAllCutters();
+        Cogwright x = Samples.withAllCutters();
         for (int none : new int[] {-1, 3, Integer.MIN_VALUE, Integer.MAX_VALUE}) {
             CHECK.outOfBounds("cutterOn(" + none + ")", () -> x.cutterOn(none));
             CHECK.outOfBounds("ticksLeft(" + none + ")", () -> x.ticksLeft(none));
@@ -204,8 +186,8 @@ final class OrdersAndMachinesTest {
     }
 
     private static void ordersOutOfBounds() {
-        Cogwright x = withAllCutters();
-        int train = train(x, 1, 8, 8);
+        Cogwright x = Samples.withAllCutters();
+        int train = Samples.train(x, 1, 8, 8);
         CHECK.outOfBounds("gearsLeft without orders", () -> x.gearsLeft(0));
         CHECK.outOfBounds("doneAt without orders", () -> x.doneAt(0));
         x.order(train);

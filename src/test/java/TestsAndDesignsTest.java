@@ -16,23 +16,6 @@ final class TestsAndDesignsTest {
         CHECK.end();
     }
 
-    private static Cogwright withAllCutters() {
-        Cogwright x = new Cogwright();
-        for (int module = 1; module <= 4; module++) {
-            x.addCutter(module, 8, 60);
-        }
-        return x;
-    }
-
-    /** Makes a train of stages, each told by its module, driver and driven gear. */
-    private static int train(Cogwright x, int... stages) {
-        int distance = 0;
-        for (int i = 0; i + 2 < stages.length; i += 3) {
-            distance = x.stage(stages[i], stages[i + 1], stages[i + 2]);
-        }
-        return x.make(distance);
-    }
-
     private static int cut(Cogwright x, int train) {
         int order = x.order(train);
         x.pass(200);
@@ -46,9 +29,9 @@ final class TestsAndDesignsTest {
     }
 
     private static void wearUpToTheLimit() {
-        Cogwright x = withAllCutters();
-        int small = train(x, 1, 8, 60);
-        int drivenSmall = train(x, 1, 60, 9);
+        Cogwright x = Samples.withAllCutters();
+        int small = Samples.train(x, 1, 8, 60);
+        int drivenSmall = Samples.train(x, 1, 60, 9);
         int first = cut(x, small);
         CHECK.same("no wear at first", 0, x.wear(first, 0));
         tested(x, first, 80, 1, false);
@@ -69,8 +52,8 @@ final class TestsAndDesignsTest {
     }
 
     private static void wearRoundsDown() {
-        Cogwright x = withAllCutters();
-        int order = cut(x, train(x, 4, 8, 8, 3, 8, 8));
+        Cogwright x = Samples.withAllCutters();
+        int order = cut(x, Samples.train(x, 4, 8, 8, 3, 8, 8));
         tested(x, order, 1, 3, false);
         tested(x, order, 3, 1, false);
         CHECK.same("each test is rounded down", 0, x.wear(order, 0));
@@ -81,8 +64,8 @@ final class TestsAndDesignsTest {
     }
 
     private static void eachStageWears() {
-        Cogwright x = withAllCutters();
-        int train = train(x, 1, 60, 60, 2, 10, 20, 3, 30, 12, 4, 60, 8);
+        Cogwright x = Samples.withAllCutters();
+        int train = Samples.train(x, 1, 60, 60, 2, 10, 20, 3, 30, 12, 4, 60, 8);
         int one = cut(x, train);
         int other = cut(x, train);
         tested(x, one, 20, 10, false);
@@ -103,8 +86,8 @@ final class TestsAndDesignsTest {
     }
 
     private static void oneClaimAnOrder() {
-        Cogwright x = withAllCutters();
-        int train = train(x, 1, 8, 8, 1, 8, 8, 2, 8, 8);
+        Cogwright x = Samples.withAllCutters();
+        int train = Samples.train(x, 1, 8, 8, 1, 8, 8, 2, 8, 8);
         int one = cut(x, train);
         int other = cut(x, train);
         CHECK.same("no claims", 0, x.claims(train));
@@ -118,10 +101,10 @@ final class TestsAndDesignsTest {
     }
 
     private static void testRefuses() {
-        Cogwright x = withAllCutters();
+        Cogwright x = Samples.withAllCutters();
         CHECK.outOfBounds("no order", () -> x.test(0, 1, 1) ? 1 : 0);
         CHECK.outOfBounds("bounds ahead of argument", () -> x.test(0, 0, 0) ? 1 : 0);
-        int order = x.order(train(x, 1, 60, 60));
+        int order = x.order(Samples.train(x, 1, 60, 60));
         int[] wrong = {0, -1, 101, Integer.MIN_VALUE, Integer.MAX_VALUE};
         for (int value : wrong) {
             CHECK.illegalArgument("argument ahead of state, load",
@@ -145,10 +128,10 @@ final class TestsAndDesignsTest {
     }
 
     private static void wearOutOfBounds() {
-        Cogwright x = withAllCutters();
+        Cogwright x = Samples.withAllCutters();
         CHECK.outOfBounds("no order", () -> x.wear(0, 0));
-        x.order(train(x, 1, 8, 8));
-        x.order(train(x, 1, 8, 8, 1, 8, 8, 1, 8, 8, 1, 8, 8));
+        x.order(Samples.train(x, 1, 8, 8));
+        x.order(Samples.train(x, 1, 8, 8, 1, 8, 8, 1, 8, 8, 1, 8, 8));
         CHECK.same("waits, no wear", 0, x.wear(0, 0));
         CHECK.same("the last of four", 0, x.wear(1, 3));
         for (int none : new int[] {-1, 4, Integer.MIN_VALUE, Integer.MAX_VALUE}) {
@@ -160,9 +143,9 @@ final class TestsAndDesignsTest {
     }
 
     private static void claimsOutOfBounds() {
-        Cogwright x = withAllCutters();
+        Cogwright x = Samples.withAllCutters();
         CHECK.outOfBounds("no train", () -> x.claims(0));
-        CHECK.same("none without orders", 0, x.claims(train(x, 1, 8, 8)));
+        CHECK.same("none without orders", 0, x.claims(Samples.train(x, 1, 8, 8)));
         for (int none : new int[] {-1, 1, Integer.MIN_VALUE, Integer.MAX_VALUE}) {
             CHECK.outOfBounds("claims(" + none + ")", () -> x.claims(none));
         }
@@ -216,7 +199,7 @@ final class TestsAndDesignsTest {
     }
 
     private static void leastNewRefuses() {
-        Cogwright x = withAllCutters();
+        Cogwright x = Samples.withAllCutters();
         int[] wrong = {0, -1, 401, Integer.MIN_VALUE, Integer.MAX_VALUE};
         for (int value : wrong) {
             CHECK.illegalArgument("module", () -> x.leastNew(value == 401 ? 5 : value, 1, 1));
