@@ -7,9 +7,20 @@ final class Check {
     private final String test;
     private int right = 0;
     private int wrong = 0;
+    private String sentence = "";
+    private int madeAhead = 0;
 
     Check(String test) {
         this.test = test;
+    }
+
+    /** Names the sentence of the document that the next checks are for; each must have some. */
+    void sentence(String next) {
+        if (!sentence.isEmpty() && right + wrong == madeAhead) {
+            note(false, "no check was made");
+        }
+        sentence = next;
+        madeAhead = right + wrong;
     }
 
     void same(String what, long due, long got) {
@@ -52,6 +63,7 @@ final class Check {
     }
 
     void end() {
+        sentence("");
         System.out.println(test + ": " + right + " right, " + wrong + " wrong");
         if (wrong != 0) {
             System.exit(1);
@@ -65,7 +77,8 @@ final class Check {
         }
         wrong++;
         if (wrong <= 20) {
-            System.out.println(test + ": " + message);
+            System.out.println(test + ": " + (sentence.isEmpty() ? "" : "\"" + sentence + "\": ")
+                    + message);
         }
     }
 }
