@@ -44,12 +44,12 @@ final class CutterEdgesTest {
 
     private static void eachObjectAlone() {
         CHECK.sentence("A new object begins without the cutters, trains and time of another.");
-        String before = Trace.of(new Cogwright(), 0);
+        String before = Scene.EMPTY.trace();
         Cogwright used = Samples.withAllCutters();
         used.order(Samples.train(used, 1, 8, 8));
         used.pass(200);
         used.stage(1, 8, 8);
-        CHECK.holds("a later one is as the first", before.equals(Trace.of(new Cogwright(), 0)));
+        CHECK.holds("a later one is as the first", before.equals(Scene.EMPTY.trace()));
         Cogwright x = new Cogwright();
         CHECK.same("cutterFor", -1, x.cutterFor(1, 8));
         CHECK.same("scrap", 0, x.scrap());

@@ -170,13 +170,13 @@ final class DesignEdgesTest {
     private static void changesNothing() {
         CHECK.sentence("leastNew only returns a number: nothing is designed by it");
         for (Scene scene : Scene.values()) {
-            Cogwright x = scene.build();
+            Cogwright one = scene.build();
+            Cogwright other = scene.build();
             for (int module = 1; module <= 4; module++) {
-                x.leastNew(module, 3, 2);
-                x.leastNew(module, 400, 1);
+                one.leastNew(module, 3, 2);
+                other.leastNew(module, 400, 1);
             }
-            CHECK.holds(scene + " is as before",
-                    scene.trace(x).equals(scene.trace(scene.build())));
+            CHECK.holds(scene + " is as before", scene.trace(one, other).equals(scene.trace()));
         }
     }
 

@@ -17,10 +17,12 @@ final class RefusedCallsTest {
 
     private RefusedCallsTest(Scene scene) {
         this.scene = scene;
-        before = scene.trace(scene.build());
+        before = scene.trace();
     }
 
     public static void main(String[] args) {
+        busyAsTold();
+        fullAsTold();
         for (Scene scene : Scene.values()) {
             RefusedCallsTest test = new RefusedCallsTest(scene);
             test.addCutter();
@@ -39,17 +41,53 @@ final class RefusedCallsTest {
             test.leastNew();
         }
         new RefusedCallsTest(Scene.BUSY).testStates();
+        new RefusedCallsTest(Scene.DRAFTED).fifthStage();
+        new RefusedCallsTest(Scene.FULL).fifthStage();
         new RefusedCallsTest(Scene.FULL).fullStates();
         makeWithoutCutter();
         CHECK.end();
     }
 
+    private static void busyAsTold() {
+        CHECK.sentence("the states in the midst of work are as they are told");
+        Cogwright x = Scene.BUSY.build();
+        CHECK.same("time", 136, x.time());
+        CHECK.same("all the wear that it bears", 200, x.wear(0, 0));
+        CHECK.same("one broken order", 1, x.claims(1));
+        CHECK.same("in work", 3, x.gearsLeft(2));
+        CHECK.same("in work", 2, x.gearsLeft(3));
+        CHECK.same("gears that wait", 3, x.waiting());
+        CHECK.same("machine 0", 7, x.ticksLeft(0));
+        CHECK.same("machine 1 is without a job", 0, x.ticksLeft(1));
+        CHECK.same("machine 2", 2, x.ticksLeft(2));
+        CHECK.same("the draft can be made", 2, x.make(Scene.BUSY.distance));
+        CHECK.same("its ratio", 304, x.numerator(2));
+        Cogwright y = Scene.DRAFTED.build();
+        CHECK.same("the full draft can be made", 2, y.make(Scene.DRAFTED.distance));
+        CHECK.same("its ratio", 285, y.numerator(2));
+        CHECK.same("its ratio", 77, y.denominator(2));
+    }
+
+    private static void fullAsTold() {
+        CHECK.sentence("the full state is as it is told");
+        Cogwright x = Scene.FULL.build();
+        CHECK.same("the last cutter", 9, x.cutterFor(2, 49));
+        CHECK.same("there is none", -1, x.cutterFor(4, 60));
+        CHECK.same("the last train", 1, x.claims(1) + x.claims(7));
+        CHECK.same("whole", 80, x.wear(0, 0));
+        CHECK.same("broken", 5000, x.wear(1, 0));
+        CHECK.same("the last order", 2, x.gearsLeft(11));
+        CHECK.same("the draft", 4, x.scrap());
+    }
+
     private void refused(Class<? extends RuntimeException> due, String call, Call made) {
         String what = scene + ": " + call;
-        Cogwright x = scene.build();
-        CHECK.fails(what, due, () -> made.on(x));
-        CHECK.fails(what + " once more", due, () -> made.on(x));
-        CHECK.holds(what + " changed something", before.equals(scene.trace(x)));
+        Cogwright once = scene.build();
+        Cogwright twice = scene.build();
+        CHECK.fails(what, due, () -> made.on(once));
+        CHECK.fails(what + ", of two", due, () -> made.on(twice));
+        CHECK.fails(what + ", once more", due, () -> made.on(twice));
+        CHECK.holds(what + " changed something", before.equals(scene.trace(once, twice)));
     }
 
     private static String told(String call, int... arguments) {
@@ -107,7 +145,7 @@ final class RefusedCallsTest {
         for (int distance : Edges.outside(scene.distance, scene.distance)) {
             refused(STATE, told("make", distance), x -> x.make(distance));
         }
-        if (scene != Scene.BUSY) {
+        if (scene == Scene.EMPTY || scene == Scene.FULL) {
             refused(STATE, told("make", scene.distance), x -> x.make(scene.distance));
         }
     }
@@ -202,7 +240,7 @@ final class RefusedCallsTest {
             refused(BOUNDS, told("wear 0", stage), x -> x.wear(0, stage));
             refused(BOUNDS, told("wear 1", stage), x -> x.wear(1, stage));
         }
-        if (scene == Scene.BUSY) {
+        if (scene == Scene.BUSY || scene == Scene.DRAFTED) {
             for (int stage : Edges.noneOf(2)) {
                 refused(BOUNDS, told("wear 2", stage), x -> x.wear(2, stage));
             }
@@ -247,13 +285,17 @@ final class RefusedCallsTest {
         }
     }
 
-    private void fullStates() {
-        CHECK.sentence("addCutter throws IllegalStateException if there are 10");
-        refused(STATE, "a new one", x -> x.addCutter(4, 8, 8));
-        refused(STATE, "one like the first", x -> x.addCutter(1, 8, 60));
+    private void fifthStage() {
         CHECK.sentence("stage throws IllegalStateException if the draft has 4 stages");
         refused(STATE, "the smallest", x -> x.stage(1, 8, 8));
         refused(STATE, "the greatest", x -> x.stage(4, 60, 60));
+        refused(STATE, "of another ratio", x -> x.stage(3, 8, 60));
+    }
+
+    private void fullStates() {
+        CHECK.sentence("addCutter throws IllegalStateException if there are 10");
+        refused(STATE, "for more teeth", x -> x.addCutter(4, 60, 60));
+        refused(STATE, "one like the first", x -> x.addCutter(1, 8, 40));
         CHECK.sentence("test throws IllegalStateException if it is not done, or broken");
         refused(STATE, "broken", x -> tested(x, 1, 1, 1));
         refused(STATE, "waits", x -> tested(x, 11, 1, 1));

@@ -7,7 +7,10 @@ enum Scene {
         }
     },
 
-    /** Order 0 is whole with all the wear that it bears, order 1 broken, 2 and 3 in work. */
+    /**
+     * Order 0 is whole with all the wear that it bears, order 1 broken, 2 and 3 in work; machine 1
+     * is without a job, and one of its cutter waits.
+     */
     BUSY(2, 4, 85) {
         @Override
         Cogwright build() {
@@ -25,9 +28,20 @@ enum Scene {
             x.test(1, 100, 7);
             x.order(0);
             x.order(1);
-            x.pass(14);
+            x.pass(13);
             x.stage(1, 9, 16);
             x.stage(2, 11, 19);
+            return x;
+        }
+    },
+
+    /** As the one before, with a full draft. */
+    DRAFTED(2, 4, 165) {
+        @Override
+        Cogwright build() {
+            Cogwright x = BUSY.build();
+            x.stage(3, 8, 9);
+            x.stage(1, 14, 15);
             return x;
         }
     },
@@ -36,9 +50,9 @@ enum Scene {
     FULL(8, 12, 136) {
         @Override
         Cogwright build() {
-            Cogwright x = Samples.withAllCutters();
-            for (int cutter = 4; cutter < 10; cutter++) {
-                x.addCutter(1, 8, 60);
+            Cogwright x = new Cogwright();
+            for (int cutter = 0; cutter < 10; cutter++) {
+                x.addCutter(1 + cutter % 4, 8, 40 + cutter);
             }
             for (int train = 0; train < 8; train++) {
                 Samples.train(x, 1 + train % 4, 8, 9 + train);
@@ -69,7 +83,12 @@ enum Scene {
 
     abstract Cogwright build();
 
-    String trace(Cogwright x) {
-        return Trace.of(x, distance);
+    /** The trace of two objects, one for each way. */
+    String trace(Cogwright one, Cogwright other) {
+        return Trace.withMake(one, distance) + Trace.withScrap(other);
+    }
+
+    String trace() {
+        return trace(build(), build());
     }
 }

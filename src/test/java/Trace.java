@@ -1,38 +1,55 @@
 /**
- * What can be seen of an object: all that its calls tell, and what they do from there on. Two
- * objects of the same trace are in the same state. It takes some 250 calls, and changes the object.
+ * What can be seen of an object: all that its calls tell, and what they do from there on. It takes
+ * some 280 calls, and changes the object. Two objects are in the same state if they have the same
+ * trace both ways, with the draft made a train first and with the draft scrapped first: a draft
+ * that is refused as a train is seen only the second way, its ratio only the first.
  */
 final class Trace {
     private final StringBuilder text = new StringBuilder();
     private final Cogwright x;
+    private int passes = 0;
 
     private Trace(Cogwright x) {
         this.x = x;
     }
 
-    /** The trace of an object whose draft has this distance. */
-    static String of(Cogwright x, int distance) {
+    /** The trace of an object whose draft has this distance and is made a train. */
+    static String withMake(Cogwright x, int distance) {
         Trace trace = new Trace(x);
-        trace.cutters();
+        trace.seen();
+        trace.add("make", () -> x.make(distance));
         trace.trains();
-        trace.workshop();
-        trace.orders();
-        trace.draft(distance);
-        trace.room();
-        for (int i = 0; i < 3; i++) {
-            trace.add("pass", () -> x.pass(1 + 40 * trace.step()));
-            trace.workshop();
-        }
-        trace.add("pass", () -> x.pass(200));
-        trace.orders();
-        trace.claims();
+        trace.goesOn();
         return trace.text.toString();
     }
 
-    private int steps = 0;
+    /** The trace of an object whose draft is scrapped. */
+    static String withScrap(Cogwright x) {
+        Trace trace = new Trace(x);
+        trace.seen();
+        trace.add("stage", () -> x.stage(1, 8, 8));
+        trace.add("scrap", () -> x.scrap());
+        trace.goesOn();
+        return trace.text.toString();
+    }
 
-    private int step() {
-        return steps++;
+    private void seen() {
+        cutters();
+        trains();
+        workshop();
+        orders();
+    }
+
+    private void goesOn() {
+        room();
+        for (passes = 0; passes < 3; passes++) {
+            add("pass", () -> x.pass(1 + 40 * passes));
+            workshop();
+        }
+        add("pass", () -> x.pass(200));
+        tests();
+        orders();
+        claims();
     }
 
     private void add(String name, Check.Call call) {
@@ -91,21 +108,19 @@ final class Trace {
         }
     }
 
-    private void draft(int distance) {
-        add("make", () -> x.make(distance));
-        trains();
-        add("stage", () -> x.stage(1, 8, 8));
-        add("scrap", () -> x.scrap());
-    }
-
     // What there is still room for, and which number it gets.
     private void room() {
         add("addCutter", () -> x.addCutter(4, 8, 60));
         add("stage", () -> x.stage(4, 9, 10));
         add("make", () -> x.make(76));
+        add("scrap", () -> x.scrap());
         add("order", () -> x.order(0));
-        add("test 0", () -> x.test(0, 3, 1) ? 1 : 0);
-        add("test 1", () -> x.test(1, 3, 1) ? 1 : 0);
-        add("test 2", () -> x.test(2, 3, 1) ? 1 : 0);
+    }
+
+    private void tests() {
+        for (int order = 0; order < 12; order++) {
+            int asked = order;
+            add("test", () -> x.test(asked, 3, 1) ? 1 : 0);
+        }
     }
 }
