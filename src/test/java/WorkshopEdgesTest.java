@@ -252,7 +252,8 @@ final class WorkshopEdgesTest {
     }
 
     private static void driverFirst() {
-        CHECK.sentence("its gears, stage by stage, the driver first, are jobs that wait in one row");
+        CHECK.sentence("its gears, stage by stage, the driver first, are jobs that wait in one"
+                + " row");
         Cogwright x = Samples.withAllCutters();
         x.order(Samples.train(x, 1, 20, 8, 1, 19, 9, 1, 10, 18, 1, 60, 11));
         CHECK.same("all wait", 8, x.waiting());
